@@ -176,6 +176,12 @@ public final class PromiseTests {
         dueFault("  pi", 2);
         dueFault("X", 0);
         dueFault("wallX", 4);
+        dueFault("wallz", 0);
+        dueFault("apic", 0);
+        dueFault("pic{", 3);
+        dueFault("pic`", 3);
+        dueFault("pic 1/", 5);
+        dueFault("pic 1:", 5);
         dueFault("Wall 10 5 0;", 0);
         dueFault("7", 0);
         dueFault(";", 0);
@@ -244,6 +250,7 @@ public final class PromiseTests {
         due("hangs(1, 17)", h.hangs(1, 17), STATE);
         due("hangs(1, 18)", h.hangs(1, 18), 0);
         doorsTouched();
+        gapsOnBothSides();
         holesFull();
     }
 
@@ -260,6 +267,17 @@ public final class PromiseTests {
         h = told("pic 9 1 0 1;door 3 4;");
         due("hangs(0, 0)", h.hangs(0, 0), STATE);
         due("hangs(0, 4)", h.hangs(0, 4), 1);
+    }
+
+    private static void gapsOnBothSides() {
+        HungPictures h = told("wall 20 10 2;pic 2 1 1 1;pic 3 1 1 1;");
+        due("hangs(0, 8)", h.hangs(0, 8), 1);
+        due("hangs(1, 4)", h.hangs(1, 4), STATE);
+        due("hangs(1, 8)", h.hangs(1, 8), STATE);
+        due("hangs(1, 11)", h.hangs(1, 11), STATE);
+        due("hangs(1, 3)", h.hangs(1, 3), 1);
+        h.takes(1);
+        due("hangs(1, 12)", h.hangs(1, 12), 1);
     }
 
     private static void holesFull() {
@@ -517,6 +535,9 @@ public final class PromiseTests {
         due("places(2, 0)", h.places(2, 0), BAD);
         due("places(-1, 0)", h.places(-1, 0), BAD);
         duePlaces(told("wall 10 5 0;pic 9 1 1 1;door 4 5;"), 0, 0, NONE, NONE, NONE);
+        h = told("wall 10 5 0;pic 1 1 1 9;pic 1 1 1 1;");
+        h.hangs(0, 9);
+        duePlaces(h, 1, 9, 0, NONE, 0);
         // of two equal ones the least
         duePlaces(told("wall 10 5 0;pic 1 1 1 1;door 4 6;"), 0, 8, 0, NONE, 3);
         duePlaces(told("wall 40 5 0;pic 1 1 1 1;hole 79 9;"), 0, 40, 0, 39, 19);
