@@ -114,6 +114,23 @@ public final class AskingBoundaries extends Checks {
 
     // ---- sees(), forget(), which()
 
+    /** Each call that asks, at an ordinary wall and at a bare one. */
+    private static void nothingIsChanged() {
+        Run.LIVED.dueUnchanged("picture(3, 5)", 20);
+        Run.LIVED.dueUnchanged("hole(3, 2)", 0);
+        Run.LIVED.dueUnchanged("door(0, 0)", 5);
+        Run.LIVED.dueUnchanged("moment(0)", 17);
+        Run.LIVED.dueUnchanged("best(4)", 1);
+        Run.LIVED.dueUnchanged("places(3, 0)", 13);
+        Run.LIVED.dueUnchanged("most()", 15);
+        Run.LIVED.dueUnchanged("which(1)", 0);
+        Run.LIVED.dueUnchanged("count(8)", 24);
+        Run.NEW.dueUnchanged("best(0)", NONE);
+        Run.NEW.dueUnchanged("moment(1)", 0);
+        Run.NEW.dueUnchanged("which(0)", 0);
+        Run.NEW.dueUnchanged("count(0)", 20);
+    }
+
     private static void whatIsSeen() {
         for (int what = 0; what <= 3; what++) {
             Run.NEW.due("sees(" + what + ", 5)", 1);
@@ -144,11 +161,16 @@ public final class AskingBoundaries extends Checks {
         r.dueUnchanged("sees(0, 2)", FULL);
         r.dueUnchanged("sees(3, 99)", FULL);
         r.then("forget()").due("sees(0, 2)", 1);
-        // a number that is not as told is refused ahead of what is full
-        whats(r, "sees(*, 0)", 4, BAD);
-        r.dueUnchanged("sees(0, 100)", BAD);
-        r.dueUnchanged("sees(0, -100)", BAD);
+        // what is of the same kind and number is no less one more
         Run.LIVED.then("sees(0, 3)", "sees(0, 3)", "sees(0, 3)", "sees(0, 3)").dueUnchanged("sees(0, 1)", FULL);
+    }
+
+    private static void badAheadOfFull() {
+        Run full = Run.LIVED.then("sees(0, 3)", "sees(0, 3)", "sees(0, 3)", "sees(0, 3)");
+        full.due("count(7)", 6);
+        whats(full, "sees(*, 0)", 4, BAD);
+        full.dueUnchanged("sees(0, 100)", BAD);
+        full.dueUnchanged("sees(0, -100)", BAD);
     }
 
     private static void forgotten() {
@@ -225,9 +247,18 @@ public final class AskingBoundaries extends Checks {
         Run all = r.then("hangs(0, 0)", "hangs(1, 1)", "hangs(2, 2)", "hangs(3, 3)", "hangs(4, 4)");
         all.due("keep(1)", 5);
         all.then("keep(1)", "takes(2)").due("keep(0)", 4);
-        all.then("keep(1)", "takes(2)").due("back(1)", 5);
         all.then("keep(1)", "takes(2)").due("count(6)", 4);
+    }
+
+    private static void howManyHangBehindBack() {
+        Run r = Run.told(TINY.repeat(5)).then("keep(0)");
+        Run all = r.then("hangs(0, 0)", "hangs(1, 1)", "hangs(2, 2)", "hangs(3, 3)", "hangs(4, 4)", "keep(1)");
+        all.due("back(0)", 0);
+        all.due("back(1)", 5);
+        all.then("takes(2)").due("back(1)", 5);
         all.then("takes(2)", "keep(1)").due("back(1)", 4);
+        all.then("back(0)").due("count(6)", 0);
+        all.then("back(0)", "back(1)").due("count(6)", 5);
     }
 
     private static void noneKept() {
@@ -333,13 +364,15 @@ public final class AskingBoundaries extends Checks {
         sentence("MOMENT of all that hang (what = 0), OFF (1). NO: BAD.", AskingBoundaries::moments);
         sentence("below 0: it leans left. OFF: how far MOMENT is from 0.", AskingBoundaries::leaning);
         sentence("What is BAD (NO) where a number may be below 0.", AskingBoundaries::farNumbers);
+        sentence("(Nothing is changed.)", AskingBoundaries::nothingIsChanged);
         sentence("9 how many may be UNDONE. BAD.", AskingBoundaries::counts);
     }
 
     private static void seen() {
         sentence("SEEN (what 0 .. 3;", AskingBoundaries::whatIsSeen);
         sentence("n -99 .. 99): how much there is.", AskingBoundaries::numbersSeen);
-        sentence("BAD; FULL: 6.", AskingBoundaries::sixSeen);
+        sentence("SEEN (6 at most)", AskingBoundaries::sixSeen);
+        sentence("BAD; FULL: 6.", AskingBoundaries::badAheadOfFull);
         sentence("Nothing is SEEN: how much was.", AskingBoundaries::forgotten);
         sentence("WHICH: how many (what = 0), the least (1; NONE). BAD.", AskingBoundaries::whatOfWhich);
         sentence("WHICH: PICTURES by which all that was SEEN is so: how many; the least; NONE.",
@@ -351,6 +384,8 @@ public final class AskingBoundaries extends Checks {
     private static void images() {
         sentence("IMAGES 0, 1 keep all that 1 tells", AskingBoundaries::whichImage);
         sentence("An IMAGE is kept: how many PICTURES hang. BAD.", AskingBoundaries::howManyHang);
+        sentence("All of that becomes as an IMAGE has it: how many PICTURES hang.",
+                AskingBoundaries::howManyHangBehindBack);
         sentence("BAD; STATE: none was kept.", AskingBoundaries::noneKept);
         sentence("All of that becomes as an IMAGE has it", AskingBoundaries::allComesBack);
         sentence("An IMAGE is kept", AskingBoundaries::imageKeptAnew);

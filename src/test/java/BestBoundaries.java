@@ -41,6 +41,12 @@ public final class BestBoundaries extends Checks {
         }
     }
 
+    private static void fromLeftToRight() {
+        row("wall 12 5 0;pic 1 1 1 1;", 1, 1, 0, 5, 0);
+        // the doors leave one order alone
+        row("wall 12 5 0;pic 4 1 1 1;pic 3 1 1 1;pic 1 1 1 1;door 3 4;door 5 6;door 10 12;", 3, 8, 1, 0, 1, 2, 0);
+    }
+
     private static void noPictures() {
         row(Run.NEW);
         row("wall 20 5 0;door 1 2;hole 3 4;");
@@ -114,6 +120,10 @@ public final class BestBoundaries extends Checks {
         row(hung.then("best(0)", "undo()"), 1, 0, 0, 9, 0);
         row(hung.then("keep(0)", "undo()", "best(0)", "back(0)"), 0, 48, 0, 3, 0);
         row(hung.then("best(0)", "tells()"));
+        // asked again, the row is that of the wall as it is now
+        row(r.then("best(0)", "hangs(0, 15)"), 0, 48, 0, 15, 0);
+        row(r.then("best(0)").thenTold("pic 2 2 1 4;door 9 11;"), 1, 16, 0, 7, 0);
+        row(r.then("best(0)").thenTold("wall 10 5 0;pic 2 2 1 4;pic 3 2 1 4;"), 2, 4, 0, 2, 1, 0);
         // with 16 holes there is a row all the same, though one more could not be made
         Run full = Run.told("pic 1 1 0 1;pic 1 3 0 1;").thenHolesMade(16);
         full.due("best(0)", 1);
@@ -129,9 +139,13 @@ public final class BestBoundaries extends Checks {
         row("wall 20 5 0;pic 2 2 1 4;hole 40 10;", 1, 0, 0, 9, 0);
         // by one hole two pictures need one new hole
         Run.told("wall 20 5 0;pic 2 2 1 4;pic 2 2 1 4;hole 20 10;").due("best(0)", 1);
+        // a hole that one of them alone can use goes ahead of a smaller gap
+        row("wall 20 5 0;pic 2 2 1 4;pic 2 4 1 4;hole 38 10;", 1, 0, 16, 0, 1, 0);
     }
 
     private static void thenLeastOff() {
+        row("wall 20 5 0;pic 2 2 1 1;", 1, 0, 0, 9, 0);
+        row("wall 20 5 0;pic 1 2 1 1;", 1, 1, 0, 9, 0);
         row("wall 20 5 1;pic 2 2 1 4;pic 2 2 1 4;", 2, 0, 2, 7, 0, 1);
         row("wall 20 5 0;pic 2 2 1 4;hole 2 10;hole 36 10;", 0, 64, 0, 17, 0);
         row("wall 20 5 0;pic 2 2 1 4;hole 4 10;hole 38 10;", 0, 64, 0, 1, 0);
@@ -304,6 +318,7 @@ public final class BestBoundaries extends Checks {
 
     private static void rows() {
         sentence("NONE: there is none, not so many. BAD (below 0).", BestBoundaries::whatOfBest);
+        sentence("4 on: the PICTURES from left to right", BestBoundaries::fromLeftToRight);
         sentence("NONE (also without PICTURES)", BestBoundaries::noPictures);
         sentence("NONE: there is none", BestBoundaries::noRoom);
         sentence("a gap g between each two (g GAP to 20)", BestBoundaries::leastGap);

@@ -166,13 +166,20 @@ public final class HangingBoundaries extends Checks {
         Run r = Run.told("wall 40 5 0;" + ONE.repeat(5)).then("hangs(0, 0)", "hangs(4, 39)");
         r.due("takes(0)", 0);
         r.due("takes(4)", 39);
-        Run down = r.then("takes(0)");
-        down.due("picture(0, 4)", NONE);
-        down.due("picture(4, 4)", 39);
-        down.due("count(6)", 1);
-        down.due("count(5)", 2);
-        down.due("hole(0, 2)", NONE);
-        down.due("hole(1, 2)", 4);
+        r.then("takes(0)").due("takes(4)", 39);
+    }
+
+    private static void holesStay() {
+        Run r = Run.told("wall 40 5 0;" + ONE.repeat(5)).then("hangs(0, 0)", "hangs(4, 39)", "takes(0)");
+        r.due("picture(0, 4)", NONE);
+        r.due("picture(4, 4)", 39);
+        r.due("count(6)", 1);
+        r.due("moment(0)", 39);
+        r.due("count(5)", 2);
+        r.dueEach("hole(0, *)", 1, 11, NONE);
+        r.dueEach("hole(1, *)", 79, 11, 4);
+        r.then("takes(4)").due("count(5)", 2);
+        r.due("hangs(1, 0)", 0);
     }
 
     private static void takesRefused() {
@@ -200,10 +207,17 @@ public final class HangingBoundaries extends Checks {
         r.then("fills(2)").due("hole(2, 0)", NO);
         r.then("fills(2)", "fills(1)").due("fills(0)", 0);
         r.then("fills(2)", "fills(1)", "fills(0)").due("count(5)", 0);
-        // the hole is no more: it is made again, behind all others
+    }
+
+    private static void holeIsNoMore() {
+        // it is made again, behind all others
         Run made = Run.told(ONE + "hole 7 21;hole 1 1;").then("fills(0)");
         made.due("hangs(0, 3)", 1);
         made.then("hangs(0, 3)").dueEach("hole(1, *)", 7, 21, 0);
+        made.due("places(0, 2)", NONE);
+        made.due("best(0)", 1);
+        // and it leaves room for another
+        Run.told(ONE).thenHolesMade(16).then("fills(0)").due("hangs(0, 19)", 1);
     }
 
     private static void sixteenthFilled() {
@@ -227,6 +241,16 @@ public final class HangingBoundaries extends Checks {
         Run.LIVED.due("fills(0)", 4);
         Run.LIVED.dueUnchanged("fills(3)", STATE);
         Run.LIVED.dueUnchanged("fills(4)", STATE);
+    }
+
+    private static void fillsOfOneInUse() {
+        Run r = Run.told(ONE).then("hangs(0, 0)");
+        r.dueUnchanged("fills(0)", STATE);
+        r.dueUnchanged("fills(1)", BAD);
+        r.then("takes(0)").due("fills(0)", 0);
+        r.then("takes(0)", "hangs(0, 1)").due("fills(0)", 1);
+        r.then("takes(0)", "hangs(0, 1)").dueUnchanged("fills(1)", STATE);
+        Run.told("wall 40 5 0;" + ONE).then("hangs(0, 39)").dueUnchanged("fills(0)", STATE);
     }
 
     private static void holesInUse() {
@@ -419,9 +443,12 @@ public final class HangingBoundaries extends Checks {
 
     private static void takingAndFilling() {
         sentence("DOWN: the x at which it hung.", HangingBoundaries::takenDown);
+        sentence("DOWN: it hangs no more; HOLES stay.", HangingBoundaries::holesStay);
         sentence("BAD; STATE: it does not hang.", HangingBoundaries::takesRefused);
         sentence("is FILLED (those behind it move up): how many are left", HangingBoundaries::holesMoveUp);
+        sentence("FILLED: a HOLE is no more", HangingBoundaries::holeIsNoMore);
         sentence("HOLES (16 at most", HangingBoundaries::sixteenthFilled);
+        sentence("BAD; STATE: a PICTURE hangs there.", HangingBoundaries::fillsOfOneInUse);
         sentence("The k-th HOLE (0 on) is FILLED", HangingBoundaries::fillsRefused);
         sentence("(none at whose place a HOOK of a PICTURE that hangs is)", HangingBoundaries::holesInUse);
         sentence("LINE is l (5 .. 20): what it was.", HangingBoundaries::lineEdges);

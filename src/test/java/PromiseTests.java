@@ -1,20 +1,5 @@
-/** The promises of the document one by one: ordinary inputs, the edges, wrong inputs. */
-public final class PromiseTests {
-    private static final int BAD = -1, STATE = -2, FULL = -3, NONE = -9, NO = -1000000;
-    private static final int LEAST = Integer.MIN_VALUE, GREATEST = Integer.MAX_VALUE;
-
-    private static int wrong = 0;
-    private static int checked = 0;
-    private static String promise = "";
-
-    private static void due(String call, int got, int want) {
-        checked++;
-        if (got != want) {
-            wrong++;
-            System.out.println(promise + ": " + call + " answered " + got + ", due is " + want);
-        }
-    }
-
+/** The promises of the document one by one, by ordinary walls; their boundaries have tests of their own. */
+public final class PromiseTests extends Checks {
     private static void typeAll(HungPictures h, String text) {
         for (int i = 0; i < text.length(); i++) {
             h.type(text.charAt(i));
@@ -135,91 +120,6 @@ public final class PromiseTests {
         due("back(0)", h.back(0), 1);
     }
 
-    private static void numbersAndTheirEdges() {
-        dueTells("wall 10 5 0;", 1);
-        dueTells("wall 40 20 9;", 1);
-        dueFault("wall 9 5 0;", 5);
-        dueFault("wall 41 5 0;", 5);
-        dueFault("wall 10 4 0;", 8);
-        dueFault("wall 10 21 0;", 8);
-        dueFault("wall 10 5 10;", 10);
-        dueTells("pic 1 1 0 1;pic 9 9 9 9;pic 1 1 1 1;", 3);
-        dueFault("pic 0 1 0 1;", 4);
-        dueFault("pic 10 1 0 1;", 4);
-        dueFault("pic 1 0 0 1;", 6);
-        dueFault("pic 1 10 0 1;", 6);
-        dueFault("pic 1 3 4 1;", 8);
-        dueTells("pic 1 3 3 1;", 1);
-        dueFault("pic 1 1 0 0;", 10);
-        dueFault("pic 1 1 0 10;", 10);
-        dueTells("door 0 1;door 39 40;door 0 40;", 3);
-        dueFault("door 40 41;", 5);
-        dueFault("door 40 40;", 5);
-        dueFault("door 7 7;", 7);
-        dueFault("door 7 6;", 7);
-        dueFault("door 7 41;", 7);
-        dueTells("hole 0 0;hole 80 60;hole 0 60;hole 80 0;", 4);
-        dueFault("hole 81 0;", 5);
-        dueFault("hole 0 61;", 7);
-        dueFault("hole 1 2;hole 2 1;hole 1 2;", 25);
-        dueFault("hole 100 2;", 5);
-        dueFault("hole 00 2;", 5);
-        dueFault("hole 1 02;", 7);
-        dueFault("hole 4294967297 2;", 5);
-        dueFault("hole 18446744073709551617 2;", 5);
-        dueFault("hole 1 4294967298;", 7);
-    }
-
-    private static void faults() {
-        dueFault("pics", 0);
-        dueFault("pi", 0);
-        dueFault("  pi", 2);
-        dueFault("X", 0);
-        dueFault("wallX", 4);
-        dueFault("wallz", 0);
-        dueFault("apic", 0);
-        dueFault("pic{", 3);
-        dueFault("pic`", 3);
-        dueFault("pic 1/", 5);
-        dueFault("pic 1:", 5);
-        dueFault("Wall 10 5 0;", 0);
-        dueFault("7", 0);
-        dueFault(";", 0);
-        dueFault("wall;", 4);
-        dueFault("wall pic", 5);
-        dueFault("wall 10 5 0 0;", 12);
-        dueFault("wall 10 5 0 pic;", 12);
-        dueFault("wall 10 5 0 pix;", 12);
-        dueFault("wall 10 5;", 9);
-        dueFault("wall 10,5 0;", 7);
-        dueFault("wall -10 5 0;", 5);
-        dueFault("wall\t10 5 0;", 4);
-        dueFault("pic 1 1 1 1;;", 12);
-        dueFault("wall", 4);
-        dueFault("wall  ", 6);
-        dueFault("wall 10 5 0", 11);
-        dueFault("wall 10 5 0  ", 13);
-        dueFault("pic 1 1 1a;", 9);
-        dueFault("pic 1 1 1 1; wall 10 5 0; wall 10 5 0;", 26);
-        dueFault("pic1 1 1 1;pic1 1 1 1;pic1 1 1 1;pic1 1 1 1;pic1 1 1 1;pic1 1 1 1;", 55);
-        dueTells("pic1 1 1 1;pic1 1 1 1;pic1 1 1 1;pic1 1 1 1;pic1 1 1 1;", 5);
-        dueFault("door1 2;door1 2;door1 2; door", 25);
-        dueTells("door1 2;door1 2;door1 2;", 3);
-        StringBuilder holes = new StringBuilder();
-        for (int i = 0; i < 15; i++) {
-            holes.append("hole").append(i % 10).append(' ').append(i / 10).append(';');
-        }
-        dueTells(holes.toString(), 15);
-        HungPictures h = new HungPictures();
-        h.type('p');
-        h.type(0);
-        due("tells()", h.tells(), -10);
-        h.clear();
-        h.type(' ');
-        h.type(255);
-        due("tells()", h.tells(), -11);
-    }
-
     private static void hangs() {
         HungPictures h = told("wall 20 10 2;pic 4 4 1 5;pic 2 2 0 3;door 10 12;hole 4 22;hole 38 22;");
         due("hangs(-1, 0)", h.hangs(-1, 0), BAD);
@@ -249,56 +149,6 @@ public final class PromiseTests {
         h.takes(1);
         due("hangs(1, 17)", h.hangs(1, 17), STATE);
         due("hangs(1, 18)", h.hangs(1, 18), 0);
-        doorsTouched();
-        gapsOnBothSides();
-        holesFull();
-    }
-
-    private static void doorsTouched() {
-        HungPictures h = told("wall 20 10 3;pic 3 1 0 1;door 5 6;door 9 30;");
-        due("hangs(0, 2)", h.hangs(0, 2), 1);
-        h.takes(0);
-        due("hangs(0, 3)", h.hangs(0, 3), STATE);
-        due("hangs(0, 5)", h.hangs(0, 5), STATE);
-        due("hangs(0, 6)", h.hangs(0, 6), 1);
-        h.takes(0);
-        due("hangs(0, 7)", h.hangs(0, 7), STATE);
-        due("hangs(0, 15)", h.hangs(0, 15), STATE);
-        h = told("pic 9 1 0 1;door 3 4;");
-        due("hangs(0, 0)", h.hangs(0, 0), STATE);
-        due("hangs(0, 4)", h.hangs(0, 4), 1);
-    }
-
-    private static void gapsOnBothSides() {
-        HungPictures h = told("wall 20 10 2;pic 2 1 1 1;pic 3 1 1 1;");
-        due("hangs(0, 8)", h.hangs(0, 8), 1);
-        due("hangs(1, 4)", h.hangs(1, 4), STATE);
-        due("hangs(1, 8)", h.hangs(1, 8), STATE);
-        due("hangs(1, 11)", h.hangs(1, 11), STATE);
-        due("hangs(1, 3)", h.hangs(1, 3), 1);
-        h.takes(1);
-        due("hangs(1, 12)", h.hangs(1, 12), 1);
-    }
-
-    private static void holesFull() {
-        HungPictures h = told("pic 1 1 0 1;pic 1 1 0 1;");
-        for (int x = 0; x < 16; x++) {
-            due("hangs(0, " + x + ")", h.hangs(0, x), 1);
-            due("takes(0)", h.takes(0), x);
-        }
-        due("hangs(0, 16)", h.hangs(0, 16), FULL);
-        due("count(9)", h.count(9), 6);
-        due("picture(0, 4)", h.picture(0, 4), NONE);
-        due("hangs(0, 20)", h.hangs(0, 20), STATE);
-        due("hangs(0, 15)", h.hangs(0, 15), 0);
-        due("hangs(1, 15)", h.hangs(1, 15), STATE);
-        due("hangs(1, 16)", h.hangs(1, 16), FULL);
-        due("places(1, 0)", h.places(1, 0), 19);
-        due("places(1, 2)", h.places(1, 2), 0);
-        due("fills(3)", h.fills(3), 15);
-        due("hangs(1, 16)", h.hangs(1, 16), 1);
-        due("hole(15, 0)", h.hole(15, 0), 33);
-        due("hole(16, 0)", h.hole(16, 0), NO);
     }
 
     private static void takes() {
@@ -386,30 +236,6 @@ public final class PromiseTests {
         due("undo() of tells", h.undo(), 0);
         dueCounts(h, 20, 10, 0, 0, 0, 0, 0, 0, 2, 0);
         due("undo()", h.undo(), STATE);
-        undoKnowsSix();
-    }
-
-    private static void undoKnowsSix() {
-        HungPictures h = new HungPictures();
-        for (int l = 11; l <= 20; l++) {
-            due("lines(" + l + ")", h.lines(l), l - 1);
-            due("count(9)", h.count(9), Math.min(6, l - 10));
-        }
-        h.lines(20);
-        h.lines(4);
-        h.sees(0, 1);
-        h.keep(0);
-        for (int left = 5; left >= 0; left--) {
-            due("undo()", h.undo(), left);
-            due("count(1)", h.count(1), 14 + left);
-        }
-        due("undo()", h.undo(), STATE);
-        due("count(1)", h.count(1), 14);
-        due("count(7)", h.count(7), 1);
-        due("lines(15)", h.lines(15), 14);
-        due("undo()", h.undo(), 0);
-        due("back(0)", h.back(0), 0);
-        due("count(1)", h.count(1), 20);
     }
 
     private static void picture() {
@@ -498,27 +324,6 @@ public final class PromiseTests {
         due("best(-1)", h.best(-1), BAD);
         due("best(least)", h.best(LEAST), BAD);
         due("best(greatest)", h.best(GREATEST), NONE);
-        bestIsAskedAgain();
-    }
-
-    private static void bestIsAskedAgain() {
-        HungPictures h = told("wall 20 5 0;pic 2 2 1 4;");
-        dueBest(h, 1, 0, 0, 9, 0);
-        h.hangs(0, 3);
-        dueBest(h, 0, 48, 0, 3, 0);
-        h.takes(0);
-        dueBest(h, 0, 48, 0, 3, 0);
-        h.keep(0);
-        h.lines(6);
-        dueBest(h, 1, 0, 0, 9, 0);
-        h.undo();
-        dueBest(h, 0, 48, 0, 3, 0);
-        h.fills(0);
-        dueBest(h, 1, 0, 0, 9, 0);
-        h.back(0);
-        dueBest(h, 0, 48, 0, 3, 0);
-        due("tells()", h.tells(), 0);
-        dueBest(h);
     }
 
     private static void places() {
@@ -669,36 +474,29 @@ public final class PromiseTests {
         due("NO", HungPictures.NO, NO);
     }
 
-    private static void named(String name) {
-        promise = name;
-    }
-
     public static void main(String[] args) {
-        named("the constants"); constants();
-        named("1 a new object"); newObject();
-        named("2 type"); type();
-        named("3 clear"); clear();
-        named("4 tells"); tells(); numbersAndTheirEdges(); faults();
-        named("5 hangs"); hangs();
-        named("6 takes"); takes();
-        named("7 fills"); fills();
-        named("8 lines"); lines();
-        named("9 undo"); undo();
-        named("10 picture"); picture();
-        named("11 hole"); hole();
-        named("12 door"); door();
-        named("13 moment"); moment();
-        named("14 best"); best();
-        named("15 places"); places();
-        named("16 most"); most();
-        named("17 sees"); sees();
-        named("18 forget"); forget();
-        named("19 which"); which();
-        named("20 keep, 21 back"); keepAndBack();
-        named("22 count"); count();
-        System.out.println(checked + " answers looked at, " + wrong + " not as due");
-        if (wrong != 0) {
-            System.exit(1);
-        }
+        test("the constants", PromiseTests::constants);
+        test("1 a new object", PromiseTests::newObject);
+        test("2 type", PromiseTests::type);
+        test("3 clear", PromiseTests::clear);
+        test("4 tells", PromiseTests::tells);
+        test("5 hangs", PromiseTests::hangs);
+        test("6 takes", PromiseTests::takes);
+        test("7 fills", PromiseTests::fills);
+        test("8 lines", PromiseTests::lines);
+        test("9 undo", PromiseTests::undo);
+        test("10 picture", PromiseTests::picture);
+        test("11 hole", PromiseTests::hole);
+        test("12 door", PromiseTests::door);
+        test("13 moment", PromiseTests::moment);
+        test("14 best", PromiseTests::best);
+        test("15 places", PromiseTests::places);
+        test("16 most", PromiseTests::most);
+        test("17 sees", PromiseTests::sees);
+        test("18 forget", PromiseTests::forget);
+        test("19 which", PromiseTests::which);
+        test("20 keep, 21 back", PromiseTests::keepAndBack);
+        test("22 count", PromiseTests::count);
+        end();
     }
 }

@@ -72,9 +72,16 @@ public final class TextBoundaries extends Checks {
         Run.NEW.due("count(3)", 0);
         Run.told(PIC.repeat(4) + "pic 2 3 1 4;").due("count(3)", 5);
         Run.told(PIC.repeat(4) + "pic 2 3 1 4;").dueEach("picture(4, *)", 2, 3, 1, 4, NONE, 21, NO);
+    }
+
+    private static void sixthPicture() {
+        items(5, PIC.repeat(5));
         faultAt(55, PIC.repeat(6));
         faultAt(55, PIC.repeat(5) + "pic");
+        faultAt(55, PIC.repeat(5) + "pic 0 0 0 0;");
         faultAt(73, PIC.repeat(2) + DOOR + PIC.repeat(3) + "hole 1 2; " + PIC);
+        // five in each text
+        Run.told(PIC.repeat(5)).thenTyped(PIC.repeat(5)).due("tells()", 5);
     }
 
     private static void wide() {
@@ -102,8 +109,14 @@ public final class TextBoundaries extends Checks {
         Run.NEW.due("count(4)", 0);
         Run.told(DOOR + DOOR + "door 3 5;").due("count(4)", 3);
         Run.told(DOOR + DOOR + "door 3 5;").dueEach("door(2, *)", 3, 5, BAD);
+    }
+
+    private static void fourthDoor() {
+        items(3, DOOR.repeat(3));
         faultAt(24, DOOR.repeat(4));
         faultAt(24, DOOR.repeat(3) + "door");
+        faultAt(24, DOOR.repeat(3) + "door 41 41;");
+        Run.told(DOOR.repeat(3)).thenTyped(DOOR.repeat(3)).due("tells()", 3);
         faultAt(45, DOOR.repeat(2) + "hole 1 2;" + DOOR + "pic 1 1 1 1;door 6 7;");
     }
 
@@ -146,12 +159,18 @@ public final class TextBoundaries extends Checks {
         number("hole 9 *;", 0, 60, "hole(0, 1)");
     }
 
-    private static void noTwoHolesAlike() {
+    private static void holeToldAgain() {
         faultAt(14, "hole1 2;hole1 2;");
         faultAt(16, "hole 0 0;hole 0 0;");
         faultAt(25, "hole 1 2;hole 3 4;hole 1 2;");
         faultAt(25, "hole 1 2;hole 3 4;hole 3 4;");
         faultAt(20, "hole 80 60;hole 80  60;hole 1 2;");
+        faultAt(16, "hole 1 2;hole 1 2");
+        faultAt(16, "hole 1 2;hole 1 2 ?");
+    }
+
+    private static void noTwoHolesAlike() {
+        faultAt(16, "hole 1 2;hole 1 2;");
         items(2, "hole 1 2;hole 1 3;");
         items(2, "hole 1 2;hole 2 2;");
         items(2, "hole 1 2;hole 2 1;");
@@ -244,20 +263,32 @@ public final class TextBoundaries extends Checks {
     private static void wallOnce() {
         Run.told(PIC).due("count(0)", 20);
         items(1, "wall 12 8 1;");
-        Run.told(PIC + DOOR + "hole 1 2;wall 12 8 1;").dueEach("count(*)", 12, 8, 1);
+        Run.told(PIC + DOOR + "hole 1 2;wall 12 8 1;").dueEach("count(*)", 12, 8, 1, 1, 1, 1);
+        Run.told(PIC + "wall 12 8 1;" + PIC).dueEach("count(*)", 12, 8, 1, 2, 0, 0);
+        // once in each text
+        Run.told("wall 12 8 1;").thenTyped("wall 13 8 1;").due("tells()", 1);
+    }
+
+    private static void wallAgain() {
         faultAt(12, "wall 12 8 1;wall 12 8 1;");
         faultAt(24, "wall 12 8 1;" + PIC + " wall 9 8 1;");
         faultAt(12, "wall 12 8 1;wall");
         // told as it is at first, it is told all the same
         faultAt(13, "wall 20 10 0;wall 12 8 1;");
-        // once in each text
-        Run.told("wall 12 8 1;").thenTyped("wall 13 8 1;").due("tells()", 1);
     }
 
     private static void nextPicture() {
         Run r = Run.told("pic 1 2 2 3;pic 4 5 0 6;");
         r.dueEach("picture(0, *)", 1, 2, 2, 3);
         r.dueEach("picture(1, *)", 4, 5, 0, 6);
+    }
+
+    private static void doorToldWhole() {
+        Run r = Run.told("door 3 9;door 0 40;");
+        r.dueEach("door(0, *)", 3, 9);
+        r.dueEach("door(1, *)", 0, 40);
+        faultAt(6, "door 3;");
+        faultAt(9, "door 3 9 1;");
     }
 
     // ---- TOKENS and FAULT
@@ -287,6 +318,26 @@ public final class TextBoundaries extends Checks {
             items(letter == ' ' ? 1 : isFigure(letter) ? -14 : -15, "pic 1" + (char) letter + "1 1 1;");
             items(letter == ';' ? 1 : letter == ' ' ? -22 : isFigure(letter) ? -20 : -21, "pic 1 1 1 1" + (char) letter);
         }
+    }
+
+    /** Each number of each item, by the first one beyond, and all behind it wrong too: its own place is due. */
+    private static void numbersBeyond() {
+        faultAt(5, "wall 41 21 10;");
+        faultAt(8, "wall 12 21 10;");
+        faultAt(10, "wall 12 8 10;");
+        faultAt(4, "pic 10 10 10 10;");
+        faultAt(6, "pic 9 10 10 10;");
+        faultAt(8, "pic 9 9 10 10;");
+        faultAt(10, "pic 9 9 9 10;");
+        faultAt(5, "door 40 41;");
+        faultAt(8, "door 39 41;");
+        faultAt(5, "hole 81 61;");
+        faultAt(8, "hole 80 61;");
+        // with no end of the item behind it
+        faultAt(5, "wall 41");
+        faultAt(10, "pic 9 9 9 0");
+        faultAt(7, "door 7 7");
+        faultAt(8, "hole 80 61 ");
     }
 
     private static void wordsThatAreNone() {
@@ -462,7 +513,14 @@ public final class TextBoundaries extends Checks {
         sentence("each ended by ;", TextBoundaries::endedBySemicolon);
         sentence("wall W L G (once at most)", TextBoundaries::wallOnce);
         sentence("pic W T D G (the next PICTURE: WIDE, TALL, DROP, WEIGHT)", TextBoundaries::nextPicture);
+        sentence("door F T ;", TextBoundaries::doorToldWhole);
         sentence("hole X Y (no two alike)", TextBoundaries::noTwoHolesAlike);
+        sentence("(wall again,", TextBoundaries::wallAgain);
+        sentence("a sixth pic,", TextBoundaries::sixthPicture);
+        sentence("a fourth door,", TextBoundaries::fourthDoor);
+        // a 17th hole can't be told by 120 letters
+        sentence("a Y by which a HOLE would be told again,", TextBoundaries::holeToldAgain);
+        sentence("a NUMBER beyond what it may be, too)", TextBoundaries::numbersBeyond);
         sentence("of any other letter", TextBoundaries::everyLetterAlone);
         sentence("words (rows of letters a to z: wall, pic, door, hole)", TextBoundaries::everyLetterBehindWord);
         sentence("NUMBERS (rows of figures) and ;", TextBoundaries::everyLetterBehindNumber);
