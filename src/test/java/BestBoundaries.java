@@ -141,6 +141,8 @@ public final class BestBoundaries extends Checks {
         Run.told("wall 20 5 0;pic 2 2 1 4;pic 2 2 1 4;hole 20 10;").due("best(0)", 1);
         // a hole that one of them alone can use goes ahead of a smaller gap
         row("wall 20 5 0;pic 2 2 1 4;pic 2 4 1 4;hole 38 10;", 1, 0, 16, 0, 1, 0);
+        // two holes, each for one of them, go ahead of balance by one of these
+        row("wall 10 5 0;pic 2 2 1 1;pic 2 4 1 4;hole 2 10;hole 18 12;", 0, 24, 6, 0, 0, 1);
     }
 
     private static void thenLeastOff() {
