@@ -134,7 +134,7 @@ final class Run {
         return h;
     }
 
-    private static int answer(HungPictures h, String call) {
+    static int answer(HungPictures h, String call) {
         Call read = READ.computeIfAbsent(call, Call::of);
         try {
             return (int) read.method.invoke(h, read.numbers);
